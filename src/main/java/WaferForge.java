@@ -2198,7 +2198,9 @@ public final class WaferForge {
         private void checkTable(int first, int besides) {
             int type = labelType(codes.labels[first + besides]);
             for (int k = 0; k < besides; k++) {
-                sound = sound && labelType(codes.labels[first + k]) == type;
+                // the label may be found wrong itself, so it is looked at before sound is
+                int other = labelType(codes.labels[first + k]);
+                sound = sound && other == type;
             }
             pop(INT);
             pop(type);
