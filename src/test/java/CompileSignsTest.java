@@ -39,6 +39,13 @@ public final class CompileSignsTest {
     private static void names() {
         Bench.accepted("fn _(){} fn _1a_Z(){} fn xxxxxxxxxxxxxxxxxxxx(){} fn fnn(){} fn I32(){}");
         Bench.refused(1, "fn #" + ONE_MORE + "(){}");
+        Bench.accepted("fn a(){} fn z(){} fn A(){} fn Z(){} fn a0(){} fn a9(){} fn aA_Zz(){}");
+        for (char beside : new char[] {'@', '[', '`', '\u007F'}) {
+            Bench.refused(1, "fn #" + beside + "(){}");
+            Bench.refused(1, "fn a#" + beside + "(){}");
+        }
+        Bench.refused(1, "fn a#.(){}");
+        Bench.refused(1, "fn a#:(){}");
         Bench.refused(1, "fn #1f(){}");
         Bench.refused(1, inside("1 #f;"));
         Bench.refused(1, "fn #\u00E4(){}");

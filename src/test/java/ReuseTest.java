@@ -1,0 +1,104 @@
+/** One object, used again and again, answers as a new one does. */
+public final class ReuseTest {
+    private static final String[] PROGRAMS = {
+        "global a: i32 = 5; global b: i64 = -7L; fn f(x: i32): i32 { a = a + x; return a; } fn g(): i64 { return b; }",
+        "fn h(x: i32): i32 { while x > 3 { x = x / 2; if x == 5 { break; } } return x; }",
+        "fn x() { y; }",
+        "fn deep(k: i32): i32 { var v: i64 = i64(k); store64(8, v); return deep(k + 1); }",
+        "fn f(x: i32): i32 { var a: i64 = 1L; var b: i32 = x; return b || i32(a); } fn f2() { } fn f3() { } fn f4() { }",
+        "fn (",
+    };
+    private static final String[] MODULES = {
+        Bench.one("01 7F 01 7F", "00", "02 7F 41 07 20 00 0D 00 1A 41 09 0B 0B"),
+        Bench.HEAD,
+        Bench.one("01 7F 01 7F", "01 02 7E", "20 00 04 7F 41 01 05 00 0B 0B"),
+        Bench.one("01 7F 01 7F", "00", "42 00 0B"),
+        Bench.HEAD + "01",
+        Bench.one("01 7F 01 7F", "00", "41 03 20 00 0E 02 00 00 00 0B"),
+    };
+
+    public static void main(String[] args) {
+        WaferForge forge = new WaferForge();
+        String last = "";
+        for (int round = 0; round < 12; round++) {
+            boolean compiles = round % 2 == 0;
+            byte[] tape = compiles ? Bench.bytes(PROGRAMS[round / 2]) : Bench.unhex(MODULES[round / 2]);
+            String got = answers(forge, tape, compiles);
+            String wanted = answers(new WaferForge(), tape, compiles);
+            if (wanted.startsWith("refused")) {
+                Bench.due("round " + round, got.substring(0, got.indexOf('|')), wanted.substring(0, wanted.indexOf('|')));
+                Bench.due("bytes stay in round " + round, Bench.emitted(forge), last);
+            } else {
+                Bench.due("round " + round, got, wanted);
+                last = Bench.emitted(forge);
+            }
+        }
+        fullTapes();
+        Bench.finish();
+    }
+
+    private static String answers(WaferForge forge, byte[] tape, boolean compiles) {
+        StringBuilder text = new StringBuilder();
+        Bench.tape(forge, tape);
+        try {
+            int answer = compiles ? forge.compile() : forge.module();
+            text.append("answered ").append(answer);
+        } catch (UnsupportedOperationException e) {
+            text.append("refused");
+        }
+        text.append(" reason ").append(forge.count(2)).append(" place ").append(forge.count(3)).append('|');
+        for (int what = 4; what <= 6; what++) {
+            text.append(' ').append(forge.count(what));
+        }
+        for (int f = 0; f < forge.count(4); f++) {
+            for (int given = 0; given <= 1; given++) {
+                text.append(' ').append(called(forge, f, given));
+            }
+        }
+        for (int g = 0; g < forge.count(5); g++) {
+            text.append(" g").append(forge.global(g));
+        }
+        for (int i = 0; i < forge.count(6) * 65536; i += 7) {
+            text.append(forge.memory(i) == 0 ? "" : " m" + i + "=" + forge.memory(i));
+        }
+        return text.toString();
+    }
+
+    private static String called(WaferForge forge, int f, int given) {
+        try {
+            if (given == 1) {
+                forge.argument(11);
+            }
+            return forge.call(f) + "/" + forge.count(7);
+        } catch (ArithmeticException e) {
+            return "ended by " + forge.count(2) + "/" + forge.count(7);
+        } catch (IllegalArgumentException e) {
+            return "not taken";
+        }
+    }
+
+    /** Tapes of 2000 bytes that fill the program's rows as far as can be. */
+    private static void fullTapes() {
+        String head = "fn f(): i32 { ";
+        String tail = "return 7;}";
+        String[] parts = {"1;", "-----------------------------------1;", "~~~~~~~~~~~~~~~~~~~~~~~~~~~~~~~~~~~1;",
+            "!1;", "f();", "if 1{}", "while 0{}", "size();", "return 7;"};
+        for (String part : parts) {
+            int room = 2000 - head.length() - tail.length();
+            String program = head + part.repeat(room / part.length()) + " ".repeat(room % part.length()) + tail;
+            WaferForge forge = new WaferForge();
+            Bench.tape(forge, program);
+            Bench.due("length", forge.count(0), 2000);
+            forge.compile();
+            if (!part.equals("f();")) {
+                Bench.due("full of " + part, forge.call(0), 7);
+            }
+        }
+        StringBuilder module = new StringBuilder(Bench.HEAD + Bench.section(1, "01 60 00 00") + Bench.section(3, "01 00"));
+        int room = 2000 - Bench.unhex(module.toString()).length - 8;
+        module.append(Bench.section(10, "01 " + Bench.sized("00 " + Bench.repeat(room - 2, "01") + "0B")));
+        WaferForge forge = Bench.loaded(module.toString());
+        forge.call(0);
+        Bench.due("steps of a full module", forge.count(7), room - 2);
+    }
+}
