@@ -253,7 +253,7 @@ public final class WaferForge {
         }
         int given = argumentCount;
         argumentCount = 0;
-        if (given != wafer.typeTakes[wafer.functionType[f]]) {
+        if (given != wafer.takes(f)) {
             throw new IllegalArgumentException();
         }
         long answer = machine.run(f, arguments);
@@ -2393,6 +2393,10 @@ public final class WaferForge {
 
         private void step() {
             int i = at;
+            if (i < 0 || i >= codes.length) {
+                frameCount = 0;
+                return;
+            }
             int op = codes.ops[i];
             at++;
             if (op == OP_END) {

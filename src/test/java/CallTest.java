@@ -292,6 +292,10 @@ public final class CallTest {
                 + Bench.section(10, "02 " + Bench.sized("00 41 E4 00 41 03 10 01 6A 41 04 10 01 6A 0B")
                 + Bench.sized("01 01 7F 20 01 20 00 6A 21 01 20 01 0B"));
         Bench.due("locals are new in each call", Bench.loaded(module).call(0), 107);
+        String jumping = Bench.HEAD + Bench.section(1, "01 60 00 01 7F") + Bench.section(3, "02 00 00")
+                + Bench.section(10, "02 " + Bench.sized("00 02 7F 02 7F 03 7F 10 01 41 01 6A 0B 41 02 6A 0B 41 04 6A 0B 0B")
+                + Bench.sized("00 02 40 41 08 0C 01 0B 41 20 0B"));
+        Bench.due("br out of a function within blocks of another", Bench.loaded(jumping).call(0), 15);
     }
 
     private static void frames() {

@@ -195,7 +195,7 @@ public final class ModuleReadTest {
             boolean access = op == 0x28 || op == 0x29 || op == 0x2C || op == 0x2D || op == 0x36 || op == 0x37 || op == 0x3A;
             boolean index = op == 0x0C || op == 0x0D || op == 0x10 || op >= 0x20 && op <= 0x24 || op >= 0x3F && op <= 0x42;
             boolean block = op >= 0x02 && op <= 0x04;
-            String rest = plain ? "" : access ? " 00 00" : index ? " 00" : block ? " 40 0B" : op == 0x0E ? " 00 00" : " 00 00 0B";
+            String rest = plain ? "" : access ? " 00 00" : index ? " 00" : block ? " 40 0B" : op == 0x0E ? " 00 00" : "";
             boolean read = plain || access || index || block || op == 0x0E;
             Bench.judged("instruction " + op, Bench.HEAD + EMPTY_TYPE + Bench.section(3, "01 09")
                     + Bench.section(10, "01 " + Bench.sized(String.format("00 %02X", op) + rest + " 0B")), read ? 8 : 7);
