@@ -2706,12 +2706,26 @@ public final class WaferForge {
                 answer = a / b;
             } else if (kind == 5) {
                 answer = a % b;
-            } else if (kind == 4) {
-                answer = Long.divideUnsigned(a & mask, b & mask);
             } else {
-                answer = Long.remainderUnsigned(a & mask, b & mask);
+                long quotient = quotientWithoutSign(a & mask, b & mask);
+                answer = kind == 4 ? quotient : (a & mask) - quotient * (b & mask);
             }
             push(isInt ? (int) answer : answer);
+        }
+
+        /** The divisor is not 0. */
+        private static long quotientWithoutSign(long a, long b) {
+            if (b <= 0) {
+                // with the highest bit set it is half of the greatest or more: it goes in at most once
+                return Long.compareUnsigned(a, b) < 0 ? 0 : 1;
+            }
+            if (a >= 0) {
+                return a / b;
+            }
+            // half of the number divides as one with sign; twice that quotient is the whole one's, or 1 less
+            long quotient = (a >>> 1) / b << 1;
+            long rest = a - quotient * b;
+            return Long.compareUnsigned(rest, b) < 0 ? quotient : quotient + 1;
         }
 
         private static int ofInts(int kind, int a, int b) {
