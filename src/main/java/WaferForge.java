@@ -52,6 +52,8 @@ public final class WaferForge {
     private static final int LOCALS_MOST = 60;
     private static final int BLOCKS_MOST = 100;
     private static final int LABELS_MOST = 50;
+    private static final long INDEX_MOST = Integer.MAX_VALUE;
+    private static final long NUMBER_MOST = 0xFFFFFFFFL;
     private static final int PAGE = 65536;
     private static final int PAGES_MOST = 2;
     private static final int FORMAL_PAGES_MOST = 65536;
@@ -486,8 +488,11 @@ public final class WaferForge {
         }
 
         boolean samePart(int one, int other, int size) {
+            if (one < 0 || other < 0 || one > length - size || other > length - size) {
+                return false;
+            }
             for (int i = 0; i < size; i++) {
-                if (at(one + i) != at(other + i)) {
+                if (bytes[one + i] != bytes[other + i]) {
                     return false;
                 }
             }
@@ -1211,7 +1216,11 @@ public final class WaferForge {
                     codeConvert(sign, program.places[i]);
                     break;
                 default:
-                    codeCall(i);
+                    if (sign == Sign.NAME) {
+                        codeCall(i);
+                    } else {
+                        codeOwnCall(i);
+                    }
                     break;
             }
         }
@@ -1297,12 +1306,7 @@ public final class WaferForge {
         }
 
         private void codeCall(int i) {
-            Sign sign = program.signs[i];
             int given = (int) program.values[i];
-            if (sign != Sign.NAME) {
-                codeOwnCall(sign, given, program.places[i]);
-                return;
-            }
             int f = program.functions.indexOf(program.places[i], program.sizes[i]);
             if (f < 0) {
                 program.refuse(NO_SUCH_NAME, program.places[i]);
@@ -1323,14 +1327,16 @@ public final class WaferForge {
         }
 
         /** A call of load8 .. trap. */
-        private void codeOwnCall(Sign sign, int given, int place) {
+        private void codeOwnCall(int i) {
+            Sign sign = program.signs[i];
+            int given = (int) program.values[i];
             boolean fits = given == sign.takes();
             for (int k = given - 1; k >= 0; k--) {
                 int type = pop();
                 fits = fits && type == (k == 0 ? sign.takesFirst : sign.takesSecond);
             }
             if (!fits) {
-                program.refuse(WRONG_TYPE, place);
+                program.refuse(WRONG_TYPE, program.places[i]);
             }
             body.put(sign.code32);
             if (Codes.isAccess(sign.code32)) {
@@ -1770,7 +1776,7 @@ public final class WaferForge {
             int former = 0;
             for (int n = 0; n < MODULE_MOST && sound && at < wafer.bytes.length; n++) {
                 int id = next();
-                int size = readCount(wafer.bytes.length);
+                int size = (int) readUnsigned(wafer.bytes.length);
                 sound = sound && size <= wafer.bytes.length - at && (id == SECTION_OTHER || id > former);
                 if (sound) {
                     former = id == SECTION_OTHER ? former : id;
@@ -1786,7 +1792,7 @@ public final class WaferForge {
         private void readSection(int id) {
             switch (id) {
                 case SECTION_OTHER:
-                    int size = readCount(limit);
+                    int size = (int) readUnsigned(limit);
                     sound = sound && size <= limit - at;
                     at = limit;
                     break;
@@ -1794,9 +1800,9 @@ public final class WaferForge {
                     readTypes();
                     break;
                 case SECTION_FUNCTIONS:
-                    wafer.functionCount = readCount(FUNCTIONS_MOST);
+                    wafer.functionCount = (int) readUnsigned(FUNCTIONS_MOST);
                     for (int f = 0; f < wafer.functionCount; f++) {
-                        wafer.functionType[f] = readIndex();
+                        wafer.functionType[f] = (int) readUnsigned(INDEX_MOST);
                     }
                     break;
                 case SECTION_MEMORY:
@@ -1809,7 +1815,7 @@ public final class WaferForge {
                     readExports();
                     break;
                 case SECTION_CODES:
-                    codeCount = readCount(FUNCTIONS_MOST);
+                    codeCount = (int) readUnsigned(FUNCTIONS_MOST);
                     for (int c = 0; c < codeCount && sound; c++) {
                         readCode(c);
                     }
@@ -1821,29 +1827,29 @@ public final class WaferForge {
         }
 
         private void readTypes() {
-            wafer.typeCount = readCount(TYPES_MOST);
+            wafer.typeCount = (int) readUnsigned(TYPES_MOST);
             for (int t = 0; t < wafer.typeCount && sound; t++) {
                 expect(FUNCTION_TYPE);
-                int takes = readCount(PARAMETERS_MOST);
+                int takes = (int) readUnsigned(PARAMETERS_MOST);
                 wafer.typeTakes[t] = takes;
                 for (int p = 0; p < takes; p++) {
                     wafer.typeParameters[t * PARAMETERS_MOST + p] = readType();
                 }
-                wafer.typeGives[t] = readCount(1) == 1 ? readType() : NOTHING;
+                wafer.typeGives[t] = readUnsigned(1) == 1 ? readType() : NOTHING;
             }
         }
 
         private void readMemory() {
-            wafer.hasMemory = readCount(1) == 1;
+            wafer.hasMemory = readUnsigned(1) == 1;
             if (wafer.hasMemory) {
                 int flag = readFlag();
-                wafer.pagesLeast = readUnsigned();
-                wafer.pagesMost = flag == 1 ? readUnsigned() : -1;
+                wafer.pagesLeast = readUnsigned(NUMBER_MOST);
+                wafer.pagesMost = flag == 1 ? readUnsigned(NUMBER_MOST) : -1;
             }
         }
 
         private void readGlobals() {
-            wafer.globalCount = readCount(GLOBALS_MOST);
+            wafer.globalCount = (int) readUnsigned(GLOBALS_MOST);
             for (int g = 0; g < wafer.globalCount && sound; g++) {
                 wafer.globalTypes[g] = readType();
                 wafer.globalChanges[g] = readFlag() == 1;
@@ -1856,9 +1862,9 @@ public final class WaferForge {
         }
 
         private void readExports() {
-            wafer.exportCount = readCount(EXPORTS_MOST);
+            wafer.exportCount = (int) readUnsigned(EXPORTS_MOST);
             for (int e = 0; e < wafer.exportCount && sound; e++) {
-                int size = readCount(EXPORT_NAME_MOST);
+                int size = (int) readUnsigned(EXPORT_NAME_MOST);
                 wafer.exportStarts[e] = at;
                 wafer.exportSizes[e] = size;
                 for (int i = 0; i < size; i++) {
@@ -1867,13 +1873,13 @@ public final class WaferForge {
                 int kind = next();
                 sound = sound && (kind == KIND_FUNCTION || kind == KIND_MEMORY || kind == KIND_GLOBAL);
                 wafer.exportKinds[e] = kind;
-                wafer.exportIndices[e] = readIndex();
+                wafer.exportIndices[e] = (int) readUnsigned(INDEX_MOST);
             }
         }
 
         private void readCode(int f) {
             int sectionLimit = limit;
-            int size = readCount(wafer.bytes.length);
+            int size = (int) readUnsigned(wafer.bytes.length);
             sound = sound && size <= limit - at;
             if (!sound) {
                 return;
@@ -1893,9 +1899,9 @@ public final class WaferForge {
 
         private void readLocals(int f) {
             int total = 0;
-            int runs = readCount(LOCALS_MOST);
+            int runs = (int) readUnsigned(LOCALS_MOST);
             for (int r = 0; r < runs && sound; r++) {
-                int size = readCount(LOCALS_MOST - total);
+                int size = (int) readUnsigned(LOCALS_MOST - total);
                 int type = readType();
                 for (int i = 0; i < size; i++) {
                     codes.localTypes[f * LOCALS_MOST + total + i] = type;
@@ -1929,7 +1935,7 @@ public final class WaferForge {
                     return closeBlock(i);
                 case OP_BR: case OP_BR_IF: case OP_CALL: case OP_LOCAL_GET: case OP_LOCAL_SET:
                 case OP_LOCAL_TEE: case OP_GLOBAL_GET: case OP_GLOBAL_SET:
-                    codes.values[i] = readIndex();
+                    codes.values[i] = readUnsigned(INDEX_MOST);
                     break;
                 case OP_BR_TABLE:
                     readTable(i);
@@ -1981,21 +1987,21 @@ public final class WaferForge {
         }
 
         private void readTable(int i) {
-            int besides = readCount(LABELS_MOST);
+            int besides = (int) readUnsigned(LABELS_MOST);
             sound = sound && codes.labelCount + besides < codes.labels.length;
             if (sound) {
                 codes.values[i] = codes.labelCount;
                 codes.partners[i] = besides;
                 for (int k = 0; k <= besides; k++) {
-                    codes.labels[codes.labelCount++] = readIndex();
+                    codes.labels[codes.labelCount++] = (int) readUnsigned(INDEX_MOST);
                 }
             }
         }
 
         private void readOther(int i, int op) {
             if (Codes.isAccess(op)) {
-                codes.partners[i] = readIndex();
-                codes.values[i] = readUnsigned();
+                codes.partners[i] = (int) readUnsigned(INDEX_MOST);
+                codes.values[i] = readUnsigned(NUMBER_MOST);
             } else {
                 sound = Codes.isNumeric(op) || op == OP_UNREACHABLE || op == OP_NOP || op == OP_RETURN
                         || op == OP_DROP || op == OP_SELECT;
@@ -2014,24 +2020,15 @@ public final class WaferForge {
             return flag;
         }
 
-        private int readIndex() {
-            return readCount(Integer.MAX_VALUE);
-        }
-
-        private int readCount(int most) {
-            long value = readUnsigned();
-            sound = sound && value <= most;
-            return sound ? (int) value : 0;
-        }
-
-        private long readUnsigned() {
+        /** A number without sign; more than the most is not READ. */
+        private long readUnsigned(long most) {
             long value = 0;
             for (int shift = 0; shift < 35; shift += 7) {
                 int part = next();
                 value |= (long) (part & 0x7F) << shift;
                 if (part < 0x80) {
-                    sound = sound && value >>> 32 == 0;
-                    return value;
+                    sound = sound && value <= most;
+                    return sound ? value : 0;
                 }
             }
             sound = false;

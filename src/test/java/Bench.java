@@ -126,11 +126,42 @@ final class Bench {
     }
 
     static String emitted(WaferForge forge) {
-        byte[] bytes = new byte[forge.emit()];
-        for (int i = 0; i < bytes.length; i++) {
-            bytes[i] = (byte) (forge.word(i) >>> 56);
+        forge.emit();
+        return result(forge);
+    }
+
+    /** The bytes of THE RESULT, by one call for each eight. */
+    static String result(WaferForge forge) {
+        int length = forge.count(1);
+        ByteBuffer bytes = ByteBuffer.allocate((length + 7) / 8 * 8);
+        for (int i = 0; i < length; i += 8) {
+            bytes.putLong(forge.word(i));
         }
-        return hex(bytes);
+        return hex(Arrays.copyOf(bytes.array(), length));
+    }
+
+    /** What can be seen of an object without a change of it: counts, RESULT, globals, and bytes of the memory. */
+    static String seen(WaferForge forge) {
+        StringBuilder text = new StringBuilder();
+        for (int what = 0; what <= 8; what++) {
+            text.append(what).append('=').append(forge.count(what)).append(' ');
+        }
+        text.append(result(forge));
+        for (int g = 0; g < forge.count(5); g++) {
+            text.append(" g").append(forge.global(g));
+        }
+        int bytes = forge.count(6) * 65536;
+        for (int i : new int[] {0, 1, 7, 8, 100, 65535, 65536, 131071}) {
+            text.append(i < bytes ? " m" + forge.memory(i) : "");
+        }
+        return text.toString();
+    }
+
+    /** The call throws, and nothing that can be seen is another behind it. */
+    static void throwingOnly(String what, Class<? extends RuntimeException> wanted, WaferForge forge, Call call) {
+        String before = seen(forge);
+        throwing(what, wanted, call);
+        due(what + " changes nothing", seen(forge), before);
     }
 
     static long called(WaferForge forge, int f, long... arguments) {

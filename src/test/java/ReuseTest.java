@@ -58,8 +58,8 @@ public final class ReuseTest {
         for (int g = 0; g < forge.count(5); g++) {
             text.append(" g").append(forge.global(g));
         }
-        for (int i = 0; i < forge.count(6) * 65536; i += 7) {
-            text.append(forge.memory(i) == 0 ? "" : " m" + i + "=" + forge.memory(i));
+        for (int i = 0; i < forge.count(6) * 65536; i = i < 20 ? i + 1 : i + 13107) {
+            text.append(" m").append(forge.memory(i));
         }
         return text.toString();
     }
