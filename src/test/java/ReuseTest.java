@@ -34,6 +34,10 @@ public final class ReuseTest {
             }
         }
         fullTapes();
+        tablesBeginAnew();
+        stepsBeginAnew();
+        openBeginsAnew();
+        mostSigns();
         Bench.finish();
     }
 
@@ -100,5 +104,63 @@ public final class ReuseTest {
         WaferForge forge = Bench.loaded(module.toString());
         forge.call(0);
         Bench.due("steps of a full module", forge.count(7), room - 2);
+    }
+
+    /** The greatest tables, again and again in one object. */
+    private static void tablesBeginAnew() {
+        StringBuilder program = new StringBuilder();
+        for (int i = 0; i < 20; i++) {
+            program.append("global g").append(i).append(":i32=").append(i).append(";fn f").append(i)
+                    .append("(a:i32,b:i32,c:i32,d:i32,e:i32,f:i32,g:i32,h:i64):i32{return g").append(i).append("+g;}");
+        }
+        WaferForge forge = new WaferForge();
+        for (int round = 0; round < 4; round++) {
+            Bench.tape(forge, program.toString());
+            forge.compile();
+            Bench.due("functions", forge.count(4), 20);
+            Bench.due("globals", forge.count(5), 20);
+            Bench.due("the last function", Bench.called(forge, 19, 1, 2, 3, 4, 5, 6, 7, 8), 26);
+            Bench.due("the first function", Bench.called(forge, 0, 1, 2, 3, 4, 5, 6, 7, 8), 7);
+        }
+    }
+
+    private static void stepsBeginAnew() {
+        WaferForge forge = new WaferForge();
+        String program = "fn f(): i32 { " + "1;".repeat(980) + "return 7; }";
+        for (int round = 0; round < 4; round++) {
+            Bench.tape(forge, program);
+            forge.compile();
+            Bench.due("the last statement", forge.call(0), 7);
+            Bench.due("all statements", forge.count(7), 2 * 980 + 2);
+        }
+    }
+
+    /** Programs that are refused with as much open as can be, each followed by one that opens as much and is taken. */
+    private static void openBeginsAnew() {
+        String[] open = {"1*(".repeat(38) + "@", "-".repeat(38) + "@", "1||1&&1==1|1<<1+1*(".repeat(30) + "@",
+            "-(".repeat(19) + "x" + ")".repeat(19) + ";}", "while 1{".repeat(39) + "@", "if 1{".repeat(19) + "x"};
+        String most = "(".repeat(37) + "-1" + ")".repeat(37);
+        for (String refused : open) {
+            WaferForge forge = new WaferForge();
+            for (int round = 0; round < 12; round++) {
+                Bench.tape(forge, "fn f() { " + refused);
+                Bench.throwing("refused", UnsupportedOperationException.class, forge::compile);
+                Bench.tape(forge, "fn f(): i32 { return " + most + "; }");
+                forge.compile();
+                Bench.due("round " + round + " behind " + refused, forge.call(0), -1);
+            }
+        }
+    }
+
+    /** A tape of 2000 signs, of one byte each. */
+    private static void mostSigns() {
+        for (String sign : new String[] {"(", "-", "{", ";", "a;", "1+"}) {
+            Bench.refused(sign.repeat(2000 / sign.length()), 1, 0);
+        }
+        String head = "fn f(a:i32){";
+        String program = head + "a;".repeat((1999 - head.length()) / 2);
+        program += program.length() == 1999 ? "}" : " }";
+        Bench.due("length", program.length(), 2000);
+        Bench.accepted(program);
     }
 }
