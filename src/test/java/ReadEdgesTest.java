@@ -190,6 +190,7 @@ public final class ReadEdgesTest {
         for (int id = 0; id < 256; id++) {
             Bench.judged("section " + id, Bench.HEAD + Bench.section(id, "00"), isSection(id) ? 0 : 7);
             Bench.judged("section " + id + " behind all", Bench.HEAD + Bench.section(10, "00") + Bench.section(id, "00"), id == 0 ? 0 : 7);
+            Bench.judged("section " + id + " of nothing", Bench.HEAD + Bench.section(id, ""), 7);
             Bench.judged("a byte " + id + " behind all", Bench.HEAD + String.format("%02X", id), 7);
             Bench.judged("a byte " + id + " behind a code", Bench.HEAD + EMPTY_TYPE + ONE_FUNCTION + EMPTY_CODE + String.format("%02X", id), 7);
         }
@@ -335,6 +336,8 @@ public final class ReadEdgesTest {
         // each code has 60 of its own
         Bench.judged("60 and 60", Bench.HEAD + EMPTY_TYPE + Bench.section(3, "02 00 00")
                 + Bench.section(10, "02 04 01 3C 7F 0B 04 01 3C 7E 0B"), 0);
+        Bench.judged("60 in each of 30", Bench.HEAD + EMPTY_TYPE + Bench.section(3, "1E" + Bench.repeat(30, " 00"))
+                + Bench.section(10, "1E" + Bench.repeat(30, " 04 01 3C 7F 0B")), 0);
     }
 
     /** "at most 100 blocks open". */

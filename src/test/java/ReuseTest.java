@@ -1,3 +1,7 @@
+import java.util.ArrayList;
+import java.util.List;
+import java.util.Random;
+
 /** One object, used again and again, answers as a new one does. */
 public final class ReuseTest {
     private static final String[] PROGRAMS = {
@@ -38,6 +42,8 @@ public final class ReuseTest {
         stepsBeginAnew();
         openBeginsAnew();
         mostSigns();
+        nothingOfTheOneBefore();
+        fullModulesAgain();
         Bench.finish();
     }
 
@@ -128,10 +134,19 @@ public final class ReuseTest {
         WaferForge forge = new WaferForge();
         String program = "fn f(): i32 { " + "1;".repeat(980) + "return 7; }";
         for (int round = 0; round < 4; round++) {
+            // 104 calls each, so that the last one is among the first 512
             Bench.tape(forge, program);
             forge.compile();
             Bench.due("the last statement", forge.call(0), 7);
             Bench.due("all statements", forge.count(7), 2 * 980 + 2);
+        }
+        WaferForge greatest = new WaferForge();
+        String or = "||0".repeat(200);
+        String code = "fn a():i32{return 0" + or + ";}fn b():i32{return 0" + or + ";}fn c():i32{return 0" + "||0".repeat(199) + "||7;}";
+        for (int round = 0; round < 4; round++) {
+            Bench.tape(greatest, code);
+            greatest.compile();
+            Bench.due("the last function", greatest.call(2), 1);
         }
     }
 
@@ -162,5 +177,94 @@ public final class ReuseTest {
         program += program.length() == 1999 ? "}" : " }";
         Bench.due("length", program.length(), 2000);
         Bench.accepted(program);
+    }
+
+    private static String body(String body) {
+        return Bench.one("01 7F 01 7F", "01 03 7F", body + " 0B");
+    }
+
+    /** Tapes that leave as much behind as they can, taken and refused. */
+    private static List<byte[]> tapes() {
+        String type = Bench.section(1, "01 60 01 7F 01 7F");
+        String[] modules = {Bench.HEAD, Bench.HEAD + type, Bench.HEAD + Bench.section(3, "01 00") + Bench.section(10, "01 02 00 0B"),
+            Bench.HEAD + type + Bench.section(3, "01 00") + Bench.section(10, "01 " + Bench.sized("00 41 00 28 00 00 0B")),
+            Bench.HEAD + type + Bench.section(3, "01 00") + Bench.section(10, "01 " + Bench.sized("00 23 00 0B")),
+            Bench.HEAD + type + Bench.section(3, "01 00") + Bench.section(10, "01 " + Bench.sized("00 20 01 0B")),
+            Bench.HEAD + type + Bench.section(3, "01 00") + Bench.section(7, "01 01 67 03 00") + Bench.section(10, "01 " + Bench.sized("00 20 00 0B")),
+            Bench.HEAD + Bench.section(5, "01 00 02"), Bench.HEAD + Bench.section(5, "01 01 00 00"), Bench.HEAD + Bench.section(5, "01 01 01 01"),
+            Bench.HEAD + Bench.section(6, "02 7F 01 41 05 0B 7E 01 42 06 0B"), Bench.HEAD + Bench.section(7, "01 01 6D 02 00"),
+            Bench.HEAD + Bench.section(6, "01 7F 00 42 00 0B"), body("41 01 40 00"), body("20 00 10 00"), body("02 40 02 40 02 40 02 40"),
+            body("41 00 04 7F 41 01 05"), body("20 00 0E 02 00 00 00"), body("20 03 20 00 22 03 6A"), body("20 04"), body("00"), body("42 00"),
+            body("03 40 0C 00 0B 00"), body("3F 00"), body("20 00 41 00 20 00 36 00 00"), Bench.HEAD + "01"};
+        String[] programs = {"fn f(a: i32): i32 { while a { if a { x; } } return 1; }", "fn f(a: i32): i32 { break; }", "fn f(a: i32): i32 { continue; }",
+            "fn f(a: i32): i32 { while a { if a > 2 { break; } a = a - 1; continue; } return a; }", "global g: i32 = 7; fn f(a: i32): i32 { g = g + a; return g; }",
+            "fn f(a: i32): i32 { return g; }", "fn f(a: i32): i32 { var g: i32 = a; var h: i32 = x; }", "fn f(a: i32): i32 { return h; }",
+            "fn f(a: i32): i32 { -(1 + (2 * (x))); }", "fn f(a: i32): i32 { return -(1 + (2 * (a))); }", "fn f(a: i32): i32 { grow(1); store8(70000, a); return load8(70000); }",
+            "fn f(a: i32): i32 { return load8(70000); }", "fn f(a: i32): i32 { return f(a); }", "fn f(a: i32): i32 { if a { return 1; } }", "fn f(", "",
+            "fn f(a: i32): i32 { 1 + 1L; }", "fn f(a: i32, a: i32) { }", "fn f(a: i32): i32 { while 1 { } }"};
+        List<byte[]> all = new ArrayList<>();
+        for (String module : modules) {
+            all.add(Bench.unhex(module));
+        }
+        for (String program : programs) {
+            all.add(Bench.bytes(program));
+        }
+        return all;
+    }
+
+    /** Tapes behind one another in one object, in any order: each is answered as in a new one. */
+    private static void nothingOfTheOneBefore() {
+        List<byte[]> tapes = tapes();
+        List<String> wanted = new ArrayList<>();
+        for (byte[] tape : tapes) {
+            wanted.add(taken(new WaferForge(), tape, true));
+            wanted.add(taken(new WaferForge(), tape, false));
+        }
+        Random random = new Random(9);
+        for (int object = 0; object < 300; object++) {
+            WaferForge forge = new WaferForge();
+            for (int round = 0; round < 20; round++) {
+                int which = random.nextInt(tapes.size());
+                boolean compiles = tapes.get(which).length < 8 || tapes.get(which)[0] != 0;
+                Bench.due("tape " + which + " in round " + round, taken(forge, tapes.get(which), compiles), wanted.get(2 * which + (compiles ? 0 : 1)));
+            }
+        }
+    }
+
+    /** What the tape gives: the reason and place, or, if it is taken, what its function answers to some arguments. */
+    private static String taken(WaferForge forge, byte[] tape, boolean compiles) {
+        Bench.tape(forge, tape);
+        StringBuilder text = new StringBuilder();
+        try {
+            text.append(compiles ? forge.compile() : forge.module()).append(" bytes or functions, ").append(forge.emit()).append(" bytes");
+            for (int what = 4; what <= 6; what++) {
+                text.append(' ').append(forge.count(what));
+            }
+            for (int f = 0; f < forge.count(4); f++) {
+                text.append(' ').append(called(forge, f, 1)).append(' ').append(forge.count(6));
+            }
+            for (int g = 0; g < forge.count(5); g++) {
+                text.append(" g").append(forge.global(g));
+            }
+        } catch (UnsupportedOperationException e) {
+            text.append("refused by ").append(forge.count(2)).append(" at ").append(forge.count(3));
+        }
+        return text.toString();
+    }
+
+    /** Modules that fill the rows of instructions and of labels, again and again. */
+    private static void fullModulesAgain() {
+        String table = "02 40 41 00 0E 32" + Bench.repeat(51, " 00") + "0B";
+        String[] bodies = {Bench.repeat(1900, "01") + "41 07 0B", Bench.repeat(33, table) + "41 07 0B"};
+        for (String body : bodies) {
+            WaferForge forge = new WaferForge();
+            byte[] module = Bench.unhex(Bench.one("00 01 7F", "00", body));
+            Bench.due("it fits", module.length <= 2000 ? 1 : 0, 1);
+            for (int round = 0; round < 4; round++) {
+                Bench.tape(forge, module);
+                forge.module();
+                Bench.due("round " + round, forge.call(0), 7);
+            }
+        }
     }
 }

@@ -59,6 +59,11 @@ public final class ValidEdgesTest {
                 edge("local.tee", parameters + locals, i -> Bench.one(type, runs, "41 00 22 " + Bench.unsigned(i) + " 1A 0B"));
             }
         }
+        // the locals of the next function are none of this one's
+        for (int i = 59; i <= 61; i++) {
+            Bench.judged("local " + i + " of the first", Bench.HEAD + EMPTY_TYPE + Bench.section(3, "02 00 00") + Bench.section(10, "02 "
+                    + Bench.sized("01 3C 7F 20 " + Bench.unsigned(i) + " 1A 0B") + " 04 01 3C 7F 0B"), i < 60 ? 0 : 8);
+        }
         // of which type each is: 2 parameters, then runs of 1, 0, 2 and 1
         String type = "02 7E 7F 00";
         String runs = "04 01 7E 00 7F 02 7F 01 7E";
