@@ -17,6 +17,10 @@ public final class RunEdgesTest {
         stepOfEach();
         noSteps();
         loopsGoOn();
+        loopsDropValues();
+        tablesOfLabels();
+        mostBlocksInMostCalls();
+        loadsOfEachByte();
         whatWasPutStays();
         beginsAnew();
         Bench.finish();
@@ -293,6 +297,101 @@ public final class RunEdgesTest {
             steps("br_table to a loop", "02 40 03 40 " + count + " 0E 01 01 00 0B 0B", 2 + 7 * rounds);
             steps("a loop in a loop is begun each time", "03 40 03 40 0B " + count + " 0D 00 0B", 1 + 8 * rounds);
         }
+    }
+
+    private static void answers(String what, String type, String locals, String body, long wanted, long... arguments) {
+        Bench.due(what, Bench.called(Bench.loaded(Bench.one(type, locals, body + " 0B")), 0, arguments), wanted);
+    }
+
+    /** A br to a loop leaves what lay below it, and nothing of what came since. */
+    private static void loopsDropValues() {
+        String round = "41 08 41 09 20 00 41 01 6B 22 00 0D 00 1A 1A";
+        for (int rounds : new int[] {1, 2, 3, 1000, 9000}) {
+            answers("below a loop", "01 7F 01 7F", "00", "41 05 03 40 " + round + " 0B", 5, rounds);
+            answers("below two", "01 7F 01 7F", "00", "41 05 41 06 03 40 " + round + " 0B 6B", -1, rounds);
+            answers("a loop's value", "01 7F 01 7F", "00", "41 05 03 7F " + round + " 41 04 0B 6B", 1, rounds);
+            answers("from a block in it", "01 7F 01 7F", "00", "41 05 03 40 41 08 02 40 41 09 20 00 41 01 6B 22 00 0D 01 1A 0B 1A 0B", 5, rounds);
+            answers("by br_table", "01 7F 01 7F", "00", "41 05 02 40 03 40 41 08 41 09 20 00 41 01 6B 22 00 45 0E 01 00 01 0B 0B", 5, rounds);
+        }
+    }
+
+    /** Each br_table has labels of its own, be there as many as may in a module. */
+    private static void tablesOfLabels() {
+        String first = "02 40 02 40 02 40 20 00 0E 02 00 01 02 0B 41 01 21 01 0B 20 01 41 02 6A 21 01 0B ";
+        String second = "02 40 02 40 02 40 20 00 0E 03 02 02 01 00 0B 20 01 41 0A 6A 21 01 0B 20 01 41 14 6A 21 01 0B ";
+        for (int i = 0; i < 4; i++) {
+            long ofFirst = i == 0 ? 3 : i == 1 ? 2 : 0;
+            long ofSecond = i <= 1 ? 0 : i == 2 ? 20 : 30;
+            answers("two tables " + i, "01 7F 01 7F", "01 01 7F", first + second + "20 01", ofFirst + ofSecond, i);
+            answers("two tables, turned " + i, "01 7F 01 7F", "01 01 7F", second + "41 00 21 01 " + first + "20 01", ofFirst, i);
+        }
+        String module = Bench.HEAD + Bench.section(1, "01 60 01 7F 01 7F") + Bench.section(3, "03 00 00 00") + Bench.section(10, "03 "
+                + Bench.sized("00 02 40 02 40 20 00 0E 01 00 01 0B 41 01 0F 0B 41 02 0B") + " "
+                + Bench.sized("00 02 40 02 40 20 00 0E 01 01 00 0B 41 03 0F 0B 41 04 0B") + " "
+                + Bench.sized("00 02 40 02 40 20 00 0E 02 01 01 00 0B 41 05 0F 0B 41 06 0B"));
+        long[][] answers = {{1, 2, 2}, {4, 3, 3}, {6, 6, 5}};
+        for (int f = 0; f < 3; f++) {
+            for (int i = 0; i < 3; i++) {
+                Bench.due("table of function " + f + " at " + i, Bench.called(Bench.loaded(module), f, i), answers[f][i]);
+            }
+        }
+    }
+
+    /** 100 blocks in each of 100 calls; a run that ends there leaves none of them to the next. */
+    private static void mostBlocksInMostCalls() {
+        // 99 blocks and an if, in which it calls itself; at 0 it is left by the outermost block's label, or ended
+        WaferForge forge = Bench.loaded(Bench.one("02 7F 7F 01 7F", "00", "02 7F " + Bench.repeat(98, "02 40")
+                + "20 00 04 40 20 00 41 01 6B 20 01 10 00 41 01 6A 0F 0B 20 01 04 40 00 0B 41 07 0C 62 " + Bench.repeat(98, "0B") + "00 0B 0B"));
+        for (int round = 0; round < 4; round++) {
+            Bench.due("ended in the 100th", Bench.ending(forge, 0, 99, 1), 9);
+            Bench.due("ended by the 101st", Bench.ending(forge, 0, 100, 0), 13);
+            Bench.due("100 calls", Bench.called(forge, 0, 99, 0), 106);
+            Bench.due("1 call", Bench.called(forge, 0, 0, 0), 7);
+        }
+    }
+
+    /** Each load takes its own bytes and none beside them. */
+    private static void loadsOfEachByte() {
+        long low = 0x8877665544332211L;
+        long high = 0xFFEEDDCCBBAA9988L;
+        for (int at = 0; at <= 8; at++) {
+            WaferForge forge = Bench.loaded(Bench.HEAD + Bench.section(1, "02 60 01 7F 01 7F 60 01 7F 01 7E") + Bench.section(3, "04 00 00 00 01")
+                    + Bench.section(5, "01 00 01") + Bench.section(10, "04 " + Bench.sized("00 " + stored(low, high) + "20 00 2C 00 00 0B") + " "
+                    + Bench.sized("00 20 00 2D 00 00 0B") + " " + Bench.sized("00 20 00 28 00 00 0B") + " " + Bench.sized("00 20 00 29 00 00 0B")));
+            long there = at == 0 ? low : at == 8 ? high : low >>> 8 * at | high << 64 - 8 * at;
+            Bench.due("load8_s at " + at, Bench.called(forge, 0, at), (byte) there);
+            Bench.due("load8_u at " + at, Bench.called(forge, 1, at), there & 0xFF);
+            Bench.due("load at " + at, Bench.called(forge, 2, at), (int) there);
+            Bench.due("i64.load at " + at, Bench.called(forge, 3, at), there);
+        }
+        // each store puts its own bytes and none beside them
+        String[] stores = {"3A", "36", "37"};
+        int[] sizes = {1, 4, 8};
+        for (int k = 0; k < stores.length; k++) {
+            for (int at = 0; at <= 9; at++) {
+                WaferForge forge = Bench.loaded(Bench.one("01 7F 00", "00", stored(-1, -1) + "20 00 " + (sizes[k] == 8 ? "42" : "41") + " 00 "
+                        + stores[k] + " 00 01 0B"));
+                if (at <= 15 - sizes[k]) {
+                    Bench.called(forge, 0, at);
+                    for (int i = 0; i < 16; i++) {
+                        Bench.due(stores[k] + " at " + at + ": byte " + i, forge.memory(i), i > at && i <= at + sizes[k] ? 0 : 255);
+                    }
+                }
+            }
+        }
+    }
+
+    /** The code that puts two numbers at 0 and at 8. */
+    private static String stored(long low, long high) {
+        return "41 00 42 " + signed(low) + "37 03 00 41 00 42 " + signed(high) + "37 03 08 ";
+    }
+
+    private static String signed(long value) {
+        StringBuilder text = new StringBuilder();
+        for (int i = 0; i < 10; i++) {
+            text.append(String.format("%02X ", value >> Math.min(7 * i, 63) & 0x7F | (i < 9 ? 0x80 : 0)));
+        }
+        return text.toString();
     }
 
     /** "What was put into globals and memory till then stays." */

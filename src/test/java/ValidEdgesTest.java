@@ -225,6 +225,11 @@ public final class ValidEdgesTest {
         body("00 01 7E", "41 01 04 7E 00 0B", 8);
         body("00 00", "41 00 41 00 1A", 8);
         body("00 00", "41 00 1A 1A", 8);
+        // READ takes what has no operands at all, as the very first instruction, too
+        for (String first : new String[] {"04 40 0B", "04 40 05 0B", "04 7F 41 00 05 41 00 0B", "0D 00", "0E 00 00", "1A", "1B", "21 00", "24 00",
+            "28 00 00", "36 00 00", "40 00", "45", "6A", "A7"}) {
+            body("00 00", first, 8);
+        }
     }
 
     private static void results() {
