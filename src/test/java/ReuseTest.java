@@ -141,26 +141,28 @@ public final class ReuseTest {
             Bench.due("all statements", forge.count(7), 2 * 980 + 2);
         }
         WaferForge greatest = new WaferForge();
-        String or = "||0".repeat(200);
-        String code = "fn a():i32{return 0" + or + ";}fn b():i32{return 0" + or + ";}fn c():i32{return 0" + "||0".repeat(199) + "||7;}";
         for (int round = 0; round < 4; round++) {
-            Bench.tape(greatest, code);
+            String zeros = "||0".repeat(199) + (round % 3 == 0 ? "||1" : "||0");
+            String ones = "&&1".repeat(199) + (round % 2 == 0 ? "&&1" : "&&0");
+            Bench.tape(greatest, "fn a():i32{return 0" + zeros + ";}fn b():i32{return 1" + ones + ";}fn c():i32{return 0" + zeros + ";}");
             greatest.compile();
-            Bench.due("the last function", greatest.call(2), 1);
+            Bench.due("the first function", greatest.call(0), round % 3 == 0 ? 1 : 0);
+            Bench.due("the second function", greatest.call(1), round % 2 == 0 ? 1 : 0);
+            Bench.due("the last function", greatest.call(2), round % 3 == 0 ? 1 : 0);
         }
     }
 
     /** Programs that are refused with as much open as can be, each followed by one that opens as much and is taken. */
     private static void openBeginsAnew() {
-        String[] open = {"1*(".repeat(38) + "@", "-".repeat(38) + "@", "1||1&&1==1|1<<1+1*(".repeat(30) + "@",
+        String[] open = {"1*(".repeat(38) + "@", "-".repeat(38) + "@", "1||1&&1==1|1<<1+1*(".repeat(28) + "x" + ")".repeat(28) + ";}",
             "-(".repeat(19) + "x" + ")".repeat(19) + ";}", "while 1{".repeat(39) + "@", "if 1{".repeat(19) + "x"};
-        String most = "(".repeat(37) + "-1" + ")".repeat(37);
+        String most = "1L*(".repeat(37) + "-1L" + ")".repeat(37);
         for (String refused : open) {
             WaferForge forge = new WaferForge();
-            for (int round = 0; round < 12; round++) {
+            for (int round = 0; round < 8; round++) {
                 Bench.tape(forge, "fn f() { " + refused);
                 Bench.throwing("refused", UnsupportedOperationException.class, forge::compile);
-                Bench.tape(forge, "fn f(): i32 { return " + most + "; }");
+                Bench.tape(forge, "fn f(): i64 { return " + most + "; }");
                 forge.compile();
                 Bench.due("round " + round + " behind " + refused, forge.call(0), -1);
             }
@@ -186,7 +188,7 @@ public final class ReuseTest {
     /** Tapes that leave as much behind as they can, taken and refused. */
     private static List<byte[]> tapes() {
         String type = Bench.section(1, "01 60 01 7F 01 7F");
-        String[] modules = {Bench.HEAD, Bench.HEAD + type, Bench.HEAD + Bench.section(3, "01 00") + Bench.section(10, "01 02 00 0B"),
+        String[] modules = {Bench.HEAD, Bench.HEAD + type, Bench.HEAD + Bench.section(3, "01 00") + Bench.section(10, "01 03 00 00 0B"),
             Bench.HEAD + type + Bench.section(3, "01 00") + Bench.section(10, "01 " + Bench.sized("00 41 00 28 00 00 0B")),
             Bench.HEAD + type + Bench.section(3, "01 00") + Bench.section(10, "01 " + Bench.sized("00 23 00 0B")),
             Bench.HEAD + type + Bench.section(3, "01 00") + Bench.section(10, "01 " + Bench.sized("00 20 01 0B")),
@@ -194,7 +196,7 @@ public final class ReuseTest {
             Bench.HEAD + Bench.section(5, "01 00 02"), Bench.HEAD + Bench.section(5, "01 01 00 00"), Bench.HEAD + Bench.section(5, "01 01 01 01"),
             Bench.HEAD + Bench.section(6, "02 7F 01 41 05 0B 7E 01 42 06 0B"), Bench.HEAD + Bench.section(7, "01 01 6D 02 00"),
             Bench.HEAD + Bench.section(6, "01 7F 00 42 00 0B"), body("41 01 40 00"), body("20 00 10 00"), body("02 40 02 40 02 40 02 40"),
-            body("41 00 04 7F 41 01 05"), body("20 00 0E 02 00 00 00"), body("20 03 20 00 22 03 6A"), body("20 04"), body("00"), body("42 00"),
+            body("41 00 04 7F 41 01 05"), body("20 00 0E 02 00 00 00"), body("20 03 20 00 22 03 6A"), body("20 04"), body("00"), body("02 40 02 40 1A 0B 0B 00"), body("00 0C 01"), body("00 0C 02"), body("42 00"),
             body("03 40 0C 00 0B 00"), body("3F 00"), body("20 00 41 00 20 00 36 00 00"), Bench.HEAD + "01"};
         String[] programs = {"fn f(a: i32): i32 { while a { if a { x; } } return 1; }", "fn f(a: i32): i32 { break; }", "fn f(a: i32): i32 { continue; }",
             "fn f(a: i32): i32 { while a { if a > 2 { break; } a = a - 1; continue; } return a; }", "global g: i32 = 7; fn f(a: i32): i32 { g = g + a; return g; }",

@@ -341,12 +341,12 @@ public final class RunEdgesTest {
     private static void mostBlocksInMostCalls() {
         // 99 blocks and an if, in which it calls itself; at 0 it is left by the outermost block's label, or ended
         WaferForge forge = Bench.loaded(Bench.one("02 7F 7F 01 7F", "00", "02 7F " + Bench.repeat(98, "02 40")
-                + "20 00 04 40 20 00 41 01 6B 20 01 10 00 41 01 6A 0F 0B 20 01 04 40 00 0B 41 07 0C 62 " + Bench.repeat(98, "0B") + "00 0B 0B"));
+                + "20 00 04 40 20 00 41 01 6B 20 01 10 00 41 01 6A 0F 0B 20 01 04 40 00 0B 41 07 0C 62 " + Bench.repeat(98, "0B") + "00 0B 41 01 6A 0B"));
         for (int round = 0; round < 4; round++) {
             Bench.due("ended in the 100th", Bench.ending(forge, 0, 99, 1), 9);
             Bench.due("ended by the 101st", Bench.ending(forge, 0, 100, 0), 13);
-            Bench.due("100 calls", Bench.called(forge, 0, 99, 0), 106);
-            Bench.due("1 call", Bench.called(forge, 0, 0, 0), 7);
+            Bench.due("100 calls", Bench.called(forge, 0, 99, 0), 107);
+            Bench.due("1 call", Bench.called(forge, 0, 0, 0), 8);
         }
     }
 
