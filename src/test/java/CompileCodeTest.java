@@ -24,6 +24,7 @@ public final class CompileCodeTest {
         Bench.due("reason of " + program, forge.count(2), 0);
         Bench.due("place of " + program, forge.count(3), -1);
         Bench.due(program, Bench.emitted(forge), Bench.hex(Bench.unhex(wanted)));
+        Bench.judged("the module of " + program, wanted, 0);
     }
 
     /** The code of statements with a parameter a of i32 and b of i64, and globals g of i32 and w of i64. */

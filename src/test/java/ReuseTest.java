@@ -134,7 +134,7 @@ public final class ReuseTest {
         WaferForge forge = new WaferForge();
         String program = "fn f(): i32 { " + "1;".repeat(980) + "return 7; }";
         for (int round = 0; round < 4; round++) {
-            // 104 calls each, so that the last one is among the first 512
+            // some 105 calls each, so that all are among the first 512
             Bench.tape(forge, program);
             forge.compile();
             Bench.due("the last statement", forge.call(0), 7);
@@ -188,29 +188,33 @@ public final class ReuseTest {
     /** Tapes that leave as much behind as they can, taken and refused. */
     private static List<byte[]> tapes() {
         String type = Bench.section(1, "01 60 01 7F 01 7F");
-        String[] modules = {Bench.HEAD, Bench.HEAD + type, Bench.HEAD + Bench.section(3, "01 00") + Bench.section(10, "01 03 00 00 0B"),
-            Bench.HEAD + type + Bench.section(3, "01 00") + Bench.section(10, "01 " + Bench.sized("00 41 00 28 00 00 0B")),
-            Bench.HEAD + type + Bench.section(3, "01 00") + Bench.section(10, "01 " + Bench.sized("00 23 00 0B")),
-            Bench.HEAD + type + Bench.section(3, "01 00") + Bench.section(10, "01 " + Bench.sized("00 20 01 0B")),
-            Bench.HEAD + type + Bench.section(3, "01 00") + Bench.section(7, "01 01 67 03 00") + Bench.section(10, "01 " + Bench.sized("00 20 00 0B")),
-            Bench.HEAD + Bench.section(5, "01 00 02"), Bench.HEAD + Bench.section(5, "01 01 00 00"), Bench.HEAD + Bench.section(5, "01 01 01 01"),
-            Bench.HEAD + Bench.section(6, "02 7F 01 41 05 0B 7E 01 42 06 0B"), Bench.HEAD + Bench.section(7, "01 01 6D 02 00"),
-            Bench.HEAD + Bench.section(6, "01 7F 00 42 00 0B"), body("41 01 40 00"), body("20 00 10 00"), body("02 40 02 40 02 40 02 40"),
-            body("41 00 04 7F 41 01 05"), body("20 00 0E 02 00 00 00"), body("20 03 20 00 22 03 6A"), body("20 04"), body("00"), body("02 40 02 40 1A 0B 0B 00"), body("00 0C 01"), body("00 0C 02"), body("42 00"),
-            body("03 40 0C 00 0B 00"), body("3F 00"), body("20 00 41 00 20 00 36 00 00"), Bench.HEAD + "01"};
-        String[] programs = {"fn f(a: i32): i32 { while a { if a { x; } } return 1; }", "fn f(a: i32): i32 { break; }", "fn f(a: i32): i32 { continue; }",
-            "fn f(a: i32): i32 { while a { if a > 2 { break; } a = a - 1; continue; } return a; }", "global g: i32 = 7; fn f(a: i32): i32 { g = g + a; return g; }",
-            "fn f(a: i32): i32 { return g; }", "fn f(a: i32): i32 { var g: i32 = a; var h: i32 = x; }", "fn f(a: i32): i32 { return h; }",
-            "fn f(a: i32): i32 { -(1 + (2 * (x))); }", "fn f(a: i32): i32 { return -(1 + (2 * (a))); }", "fn f(a: i32): i32 { grow(1); store8(70000, a); return load8(70000); }",
-            "fn f(a: i32): i32 { return load8(70000); }", "fn f(a: i32): i32 { return f(a); }", "fn f(a: i32): i32 { if a { return 1; } }", "fn f(", "",
-            "fn f(a: i32): i32 { 1 + 1L; }", "fn f(a: i32, a: i32) { }", "fn f(a: i32): i32 { while 1 { } }"};
+        String function = Bench.HEAD + type + Bench.section(3, "01 00");
+        String[] modules = {Bench.HEAD, Bench.HEAD + type, Bench.HEAD + "01",
+            Bench.HEAD + Bench.section(3, "01 00") + Bench.section(10, "01 03 00 00 0B"),
+            function + Bench.section(10, "01 " + Bench.sized("00 41 00 28 00 00 0B")),
+            function + Bench.section(10, "01 " + Bench.sized("00 23 00 0B")),
+            function + Bench.section(10, "01 " + Bench.sized("00 20 01 0B")),
+            function + Bench.section(7, "01 01 67 03 00") + Bench.section(10, "01 " + Bench.sized("00 20 00 0B")),
+            Bench.HEAD + Bench.section(5, "01 00 02"), Bench.HEAD + Bench.section(5, "01 01 00 00"),
+            Bench.HEAD + Bench.section(5, "01 01 01 01"), Bench.HEAD + Bench.section(6, "02 7F 01 41 05 0B 7E 01 42 06 0B"),
+            Bench.HEAD + Bench.section(6, "01 7F 00 42 00 0B"), Bench.HEAD + Bench.section(7, "01 01 6D 02 00"),
+            body("41 01 40 00"), body("20 00 10 00"), body("02 40 02 40 02 40 02 40"), body("41 00 04 7F 41 01 05"),
+            body("20 00 0E 02 00 00 00"), body("20 03 20 00 22 03 6A"), body("20 04"), body("00"),
+            body("02 40 02 40 1A 0B 0B 00"), body("00 0C 01"), body("00 0C 02"), body("42 00"), body("03 40 0C 00 0B 00"),
+            body("3F 00"), body("20 00 41 00 20 00 36 00 00")};
+        String[] statements = {"while a { if a { x; } } return 1;", "break;", "continue;",
+            "while a { if a > 2 { break; } a = a - 1; continue; } return a;", "return g;", "var g: i32 = a; var h: i32 = x;",
+            "return h;", "-(1 + (2 * (x)));", "return -(1 + (2 * (a)));", "grow(1); store8(70000, a); return load8(70000);",
+            "return load8(70000);", "return f(a);", "if a { return 1; }", "1 + 1L;", "while 1 { }", "} fn f(a: i32, a: i32) {",
+            "g = g + a; return g; } global g: i32 = 7; fn e() {", "fn", "@"};
         List<byte[]> all = new ArrayList<>();
         for (String module : modules) {
             all.add(Bench.unhex(module));
         }
-        for (String program : programs) {
-            all.add(Bench.bytes(program));
+        for (String statement : statements) {
+            all.add(Bench.bytes("fn f(a: i32): i32 { " + statement + " }"));
         }
+        all.add(Bench.bytes(""));
         return all;
     }
 
